@@ -282,6 +282,8 @@ public final class PromiseTest {
         Check.due("moved up", letters(x, 0) + x.rule(0, 1) + "/" + x.rule(0, 2), "bc66/1");
         Check.due("moved up too", letters(x, 1) + x.rule(1, 1) + "/" + x.rule(1, 2), "d0/0");
         Check.due("spelled then", row(x, 0, 2), "abc");
+        Check.due("sounds then", row(x, 0, 1) + x.word(0, 2), "abc3");
+        Check.due("rules then", rulesAt(x, 0) + x.word(0, 6), "...11");
         Check.due("is an act", x.count(8), 2);
         Check.due("remove last", x.removeRule(1), 1);
         Check.due("gone", x.rule(1, 0), UNKNOWN);
@@ -314,6 +316,15 @@ public final class PromiseTest {
         Check.due("order then", "" + (char) x.rule(0, 1) + (char) x.rule(1, 1) + (char) x.rule(2, 1) + (char) x.rule(3, 1), "ABDC");
         Check.due("undone", x.undo(), 3);
         Check.due("as before", row(x, 0, 2), "b");
+        SoundSpeller z = with("wxyz=W,abcd=A,efgh=E", "stuv=S,q=Q");
+        Check.due("full lines", z.moveRule(1, 3), 0);
+        Check.due("full lines down", letters(z, 0) + letters(z, 1) + letters(z, 2) + letters(z, 3) + letters(z, 4), "wxyzefghstuvabcdq");
+        Check.due("full lines back", z.moveRule(3, 1), 0);
+        Check.due("full lines up", letters(z, 0) + letters(z, 1) + letters(z, 2) + letters(z, 3) + letters(z, 4), "wxyzabcdefghstuvq");
+        SoundSpeller w = with("a=A^,a=B$,:b,:a,:ca,:ab,:aba!");
+        Check.due("second word only", w.moveRule(0, 1), 1);
+        Check.due("its sounds", row(w, 1, 1), "B");
+        Check.due("its rule", w.at(1, 3, 0), 0);
         SoundSpeller y = with("e=_^,e=I$,I=ee,:e,:ee,:re");
         Check.due("empty or not", row(y, 0, 2) + " " + row(y, 1, 2), "e ee");
         Check.due("one anew", y.moveRule(1, 0), 1);
@@ -337,6 +348,9 @@ public final class PromiseTest {
         Check.due("none left", x.removeWord(0), UNKNOWN);
         Check.due("undone", x.undo(), 3);
         Check.due("there again", row(x, 0, 0), "cot");
+        SoundSpeller y = with(":abcdefghijkl,:bcdefghijklm", ":cdefghijklmn,:z");
+        Check.due("remove a full line", y.removeWord(1), 3);
+        Check.due("the others", row(y, 0, 0) + row(y, 1, 0) + row(y, 2, 0), "abcdefghijklcdefghijklmnz");
     }
 
     private static void setKind() {
@@ -469,9 +483,8 @@ public final class PromiseTest {
     }
 
     private static void convertLongest() {
-        SoundSpeller x = with("b=_,:b,:bbbbbbbbbbbb");
         String words = "a a a a a a a a a a a a a a a a a a a a a a a a a a a a a a";
-        Check.due("thirty words", convert(x, words, true), 59);
+        Check.due("thirty words", convert(new SoundSpeller(), words, true), 59);
         SoundSpeller y = with("b=_,:abbbbbbbbbbb");
         Check.due("thirty of twelve", convert(y, words, true), 30 * 12 + 29);
         Check.due("last of them", y.result(388), 'b');
@@ -631,6 +644,8 @@ public final class PromiseTest {
         Check.due("which", rulesAt(x, 0), "3333222110.");
         SoundSpeller y = with("ab=X,a=Y^,:ab,:ac");
         Check.due("more letters ahead of a side", row(y, 0, 1) + " " + row(y, 1, 1), "X Yc");
+        SoundSpeller t = with("a=Y^,ab=X,ab=Z$,abc=V,:abd,:ac,:ab,:abc");
+        Check.due("in any order", row(t, 0, 1) + " " + row(t, 1, 1) + " " + row(t, 2, 1) + " " + row(t, 3, 1), "Xd Yc Z V");
         SoundSpeller z = with("a=X,a=Y$,a=Z<,:a,:ea,:eac");
         Check.due("side ahead of none", row(z, 0, 1) + " " + row(z, 1, 1) + " " + row(z, 2, 1), "Y eY eZc");
         SoundSpeller w = with("a=Z<,a=Y$,a=X,:ea");
@@ -812,5 +827,9 @@ public final class PromiseTest {
         Check.due("collide", x.count(2), 3);
         Check.due("come back", x.count(3), 4);
         Check.due("unused", x.count(4), 0);
+        SoundSpeller y = with("z=Z,a=A,y=_,:a,:b!");
+        Check.due("first and last unused", y.count(4), 2);
+        y.removeWord(0);
+        Check.due("all unused", y.count(4), 3);
     }
 }
