@@ -481,17 +481,13 @@ public final class SoundSpeller {
         }
 
         int get(int index) {
-            return isInside(index) ? cells[index] : NONE;
+            return index >= 0 && index < size && index < cells.length ? cells[index] : NONE;
         }
 
         void set(int index, int value) {
-            if (isInside(index)) {
+            if (index >= 0 && index < size && index < cells.length) {
                 cells[index] = value;
             }
-        }
-
-        private boolean isInside(int index) {
-            return index >= 0 && index < size && index < cells.length;
         }
 
         void add(int value) {
@@ -546,7 +542,7 @@ public final class SoundSpeller {
         }
 
         void remove(int index) {
-            if (isInside(index)) {
+            if (index >= 0 && index < size) {
                 move(index, size - 1);
                 dropLast();
             }
