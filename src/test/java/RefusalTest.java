@@ -15,7 +15,7 @@ public final class RefusalTest extends SpellerCase {
         int on(SoundSpeller x);
     }
 
-    /** Something that can be told of a converter, by far less than 512 calls. */
+    /** Something that can be told of a converter, in so few calls that all of them stay below 512. */
     private interface View {
         String of(SoundSpeller x);
     }

@@ -41,8 +41,8 @@ abstract class SpellerCase {
 
     static String resultOf(SoundSpeller x) {
         StringBuilder all = new StringBuilder();
-        for (int i = 0; i < ENDLESS && x.result(i) >= 0; i++) {
-            all.append((char) x.result(i));
+        for (int i = 0, told = x.result(0); i < ENDLESS && told >= 0; told = x.result(++i)) {
+            all.append((char) told);
         }
         return all.toString();
     }
@@ -54,8 +54,8 @@ abstract class SpellerCase {
 
     static String row(SoundSpeller x, int word, int what) {
         StringBuilder all = new StringBuilder();
-        for (int i = 0; i < ENDLESS && x.at(word, what, i) >= 0; i++) {
-            all.append((char) x.at(word, what, i));
+        for (int i = 0, told = x.at(word, what, 0); i < ENDLESS && told >= 0; told = x.at(word, what, ++i)) {
+            all.append((char) told);
         }
         return all.toString();
     }
@@ -71,8 +71,8 @@ abstract class SpellerCase {
 
     static String letters(SoundSpeller x, int rule) {
         StringBuilder all = new StringBuilder();
-        for (int i = 0; i < ENDLESS && x.letterOf(rule, i) >= 0; i++) {
-            all.append((char) x.letterOf(rule, i));
+        for (int i = 0, told = x.letterOf(rule, 0); i < ENDLESS && told >= 0; told = x.letterOf(rule, ++i)) {
+            all.append((char) told);
         }
         return all.toString();
     }
@@ -120,9 +120,10 @@ abstract class SpellerCase {
     /** The letters of all rules, with their sounds and sides. */
     static String rules(SoundSpeller x) {
         StringBuilder all = new StringBuilder();
-        for (int i = 0; i < x.count(0); i++) {
-            char sound = x.rule(i, 1) == 0 ? '_' : (char) x.rule(i, 1);
-            all.append(i == 0 ? "" : " ").append(letters(x, i)).append(sound).append(x.rule(i, 2));
+        int many = x.count(0);
+        for (int i = 0; i < many; i++) {
+            int sound = x.rule(i, 1);
+            all.append(i == 0 ? "" : " ").append(letters(x, i)).append(sound == 0 ? '_' : (char) sound).append(x.rule(i, 2));
         }
         return all.toString();
     }
