@@ -1,7 +1,7 @@
 /**
  * "The fault of the text ... is the index, from 0, of the first character that is not allowed at its
- * place, or the length of the text if it ends too early": each place of the grammars with each
- * character that there is, and the texts that end there.
+ * place, or the length of the text if it ends too early": each place of the grammars with all
+ * characters up to 599 and some of those above, and the texts that end there.
  */
 public final class FaultTest extends SpellerCase {
     private static final String SMALL = "abcdefghijklmnopqrstuvwxyz";
@@ -97,7 +97,7 @@ public final class FaultTest extends SpellerCase {
         place(BACK, "a abcdefghijklmnopqrstuvwx", " '");
     }
 
-    /** Every character behind the beginning is a fault there, but for the allowed ones. */
+    /** Every character tried behind the beginning is a fault there, but for the allowed ones. */
     private static void place(int kind, String beginning, String allowed) {
         SoundSpeller x = new SoundSpeller();
         int used = 0;
@@ -114,7 +114,7 @@ public final class FaultTest extends SpellerCase {
         }
     }
 
-    /** All characters up to 599, and then those whose last bits are as those of the lowest ones. */
+    /** All characters up to 599, and every 509th of those above. */
     private static int next(int code) {
         return code < 600 ? code + 1 : code + 509;
     }
