@@ -38,7 +38,15 @@ public final class PromiseTest extends SpellerCase {
         result();
         collideWith();
         count();
+        exampleOfTheReadme();
         Check.end();
+    }
+
+    private static void exampleOfTheReadme() {
+        SoundSpeller x = new SoundSpeller();
+        Check.due("entries of the readme", enter(x, "th=T,T=dh,e=_$,:the!"), 4);
+        dueConverted(x, "the tithe", false, "the tidh");
+        Check.due("result(7) of the readme", x.result(7), 'h');
     }
 
     // ---- promises
